@@ -489,7 +489,7 @@ public final class RoundCoracles {
         }
         int many = 0;
         for (int guess = 0; guess < 10 * told.judges; guess++) {
-            if (guessHolds(guess)) {
+            if (tryGuess(guess) && sightingsHold()) {
                 if (what == 1) {
                     return guess;
                 }
@@ -499,16 +499,16 @@ public final class RoundCoracles {
         return what == 1 ? NONE : many;
     }
 
-    /** A guess is 10 by a judge, and the lean that the judge is guessed to have. */
-    private boolean guessHolds(int guess) {
+    /**
+     * The trial is as now, but by a guess: 10 by a judge, and the lean that one is guessed to have.
+     * False: one has that lean.
+     */
+    private boolean tryGuess(int guess) {
         int judge = guess / 10;
         int lean = guess % 10;
-        if (told.lean[judge] == lean) {
-            return false;
-        }
         tryFor(0);
         trial.lean[judge] = lean;
-        return sightingsHold();
+        return told.lean[judge] != lean;
     }
 
     /** Goes on with the trial as it stands. */
@@ -532,8 +532,8 @@ public final class RoundCoracles {
         needWhat(what, 1);
         Arrays.fill(places, 0);
         for (int guess = 0; guess < 10 * told.judges; guess++) {
-            if (guessHolds(guess)) {
-                addPlaces(guess / 10, guess % 10);
+            if (tryGuess(guess) && sightingsHold()) {
+                addPlaces(guess);
             }
         }
         int best = NONE;
@@ -548,9 +548,8 @@ public final class RoundCoracles {
         return what == 0 ? best : most;
     }
 
-    private void addPlaces(int judge, int lean) {
-        tryFor(0);
-        trial.lean[judge] = lean;
+    private void addPlaces(int guess) {
+        tryGuess(guess);
         goOnTrying(WATCH_STEPS);
         for (int j = 0; j < told.judges; j++) {
             places[j] |= 1 << (trial.where[j] - LANDED);

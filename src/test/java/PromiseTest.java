@@ -550,6 +550,13 @@ public final class PromiseTest {
         due("behind 61", z.when(0, 1), NONE);
         z.steps(1);
         due("behind 60", z.when(0, 1), 60);
+        due("whole behind 60", by(seesAt(58)).when(0, 0), 60);
+        due("whole behind 61", by(seesAt(59)).when(0, 0), NONE);
+    }
+
+    /** One sees the second side in the step behind this one. */
+    private static String seesAt(int step) {
+        return "sides 2;turns step=" + step + ";reach 0 0;judge 0 0 0;";
     }
 
     private static void later() {
@@ -580,6 +587,11 @@ public final class PromiseTest {
         due("no more", x.beside(0, 1), NONE);
         x.steps(10);
         due("both landed", x.beside(0, 1), NONE);
+        String rule = "reach 0 0;reach 0 0;judge 0 0 0;judge 0 1 0;goes lean and step=0 or "
+                + "not lean and step=";
+        due("behind 60", by(rule + "59;").beside(0, 1), 60);
+        due("behind 61", by(rule + "60;").beside(0, 1), NONE);
+        due("on reach 0", by("reach 0 0;judge 0 0 0;judge 0 0 3;").beside(0, 1), 4);
         throwsNse("judge 3", () -> x.beside(3, 0));
         throwsNse("other 3", () -> x.beside(0, 3));
         throwsNse("other -1", () -> x.beside(0, -1));
@@ -609,6 +621,8 @@ public final class PromiseTest {
         due("none more", x.last(0), NONE);
         due("one more", x.last(1), 0);
         due("stays on one", by("reach 0 0;judge 3 0 0;").last(0), 3);
+        due("in the 60th", by(seesAt(58)).last(0), 1);
+        due("in the 61st", by(seesAt(59)).last(0), 0);
         due("never let go on a reach", by("judge 3 0 0;").last(0), NONE);
         throwsNse("judge 3", () -> x.last(3));
         throwsNse("judge -1", () -> x.last(-1));
@@ -1015,10 +1029,33 @@ public final class PromiseTest {
             due("the step ahead", x.count(3), 0);
             x.call(0);
         }
+        restoreActs();
         feed(x, "abc");
         x.restore();
         due("the tape stays", x.count(11), 20);
         due("the fault stays", x.fault(), 0);
+    }
+
+    /** The acts of an image are its own, though others come in their place. */
+    private static void restoreActs() {
+        RoundCoracles x = by(GORGE);
+        for (int i = 1; i <= 42; i++) {
+            x.paddle(0, i % 3);
+        }
+        x.image();
+        for (int i = 1; i <= 25; i++) {
+            x.paddle(1, (i + 1) % 3);
+        }
+        for (int again = 0; again < 2; again++) {
+            due("restore", x.restore() ? 1 : 0, 1);
+            due("faces", x.judge(1, 1), 1);
+            for (int i = 39; i >= 0; i--) {
+                due("undo", x.undo(), i);
+                due("as it was", x.judge(0, 1), (i + 2) % 3);
+            }
+            x.dredge(0, 3, 3);
+            x.steps(20);
+        }
     }
 
     private static final Runnable[] PROMISES = {PromiseTest::newObject, PromiseTest::feeding,
