@@ -149,6 +149,8 @@ final class QuestionEdges {
             y.steps(1);
             e.due("all have", y.first(), NONE);
             e.due("without judges", e.by("reach 1 0;").first(), NONE);
+            e.due("on a pool", e.by("reach 0 0;judge 0 0 0;").first(), NONE);
+            e.due("by the flow", e.by("reach 0 0;reach 1 0;judge 0 0 0;judge 0 0 20;", 1).first(), NONE);
             e.due("the eighth", e.by("goes lean;reach 0 0;" + "judge 0 0 0;".repeat(7) + "judge 0 9 20;")
                     .first(), 7);
         });
@@ -319,6 +321,16 @@ final class QuestionEdges {
             w.steps(1);
             e.asks(w, "fair now", () -> w.toCall(0), NONE);
             callsWithin60();
+            // On a reach that carries one to the other one, where one turns: behind 3, by a call 2.
+            RoundCoracles v = e.by("sides 2;reach 1 0;reach 0 1;judge 0 0 0;", 1);
+            v.carry(0, 0);
+            e.asks(v, "without", () -> v.when(0, 0), 3);
+            e.asks(v, "sooner by one", () -> v.toCall(0), 0);
+            // Eight, of whom the last one alone may be called.
+            RoundCoracles u = e.by("sides 2;turns spin and lean;goes 0;reach 0 0;reach 0 1;"
+                    + "judge 0 0 20;".repeat(7) + "judge 0 1 0;", 1);
+            e.asks(u, "the eighth", () -> u.toCall(7), 7);
+            e.asks(u, "of eight", () -> u.toCall(0), NONE);
         });
     }
 
@@ -430,7 +442,36 @@ final class QuestionEdges {
             y.paddle(1, 1);
             y.steps(1);
             panelIs(y, 2, 8, 0, 1);
+            panelAnew();
         });
+    }
+
+    /** On one object more is given, then less, of more sides and of fewer. */
+    private void panelAnew() {
+        RoundCoracles x = e.by("sides 8;reach 0 0;judge 0 1 0;judge 1 2 1;judge 2 3 2;judge 3 4 2;"
+                + "judge 4 5 2;judge 5 6 2;judge 6 7 2;judge 0 8 2;");
+        x.steps(1);
+        panelIs(x, 1, 1, 0, NONE, NONE, NONE, NONE, NONE, NONE, NONE);
+        x.steps(2);
+        panelIs(x, 7, 28, 0, 1, 2, 3, 4, 5, 6, NONE);
+        x.undo();
+        panelIs(x, 1, 1, 0, NONE, NONE, NONE, NONE, NONE, NONE, NONE);
+        e.due("fewer sides", Edges.tell(x, "sides 2;goes 0;reach 0 3;judge 0 2 0;judge 0 1 1;"), 0);
+        x.steps(1);
+        panelIs(x, 1, 2, 0, NONE);
+        x.steps(1);
+        panelIs(x, 2, 3, 1, 0);
+        e.due("more sides", Edges.tell(x, "sides 3;reach 0 0;judge 2 9 0;"), 0);
+        x.steps(1);
+        panelIs(x, 1, 9, NONE, NONE, 0);
+        for (int lean = 0; lean <= 5; lean += 5) {
+            e.due("three sides", Edges.tell(x, "sides 3;reach 0 0;judge 2 0 0;judge 1 0 20;"), 0);
+            x.steps(1);
+            panelIs(x, 1, 0, NONE, NONE, 0);
+            e.due("two", Edges.tell(x, "sides 2;reach 0 0;judge 0 " + lean + " 0;judge 0 9 0;"), 0);
+            x.steps(1);
+            panelIs(x, 1, lean, 0, NONE);
+        }
     }
 
     private void panelIs(RoundCoracles x, int many, int much, int... seats) {

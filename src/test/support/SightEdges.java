@@ -77,6 +77,9 @@ final class SightEdges {
             // One goes on to where one is alone, by lean 1; or the other one goes, by 1 to 9.
             leansAre(sees("turns here=0;goes lean;reach 0 0;reach 0 0;judge 0 0 0;judge 0 0 0;", 0, 2, 1), 10, 1,
                     0);
+            // By the flow one comes to a reach that turns one, but by a lean of 2 and more.
+            leansAre(sees("reach 1 0;reach 0 2;reach 0 0;judge 0 0 0;", 0, 2, 2), 0, NONE, 1);
+            leansAre(sees("reach 1 0;reach 0 2;reach 0 0;judge 0 0 0;", 0, 2, 0), 8, 2, 0);
         });
     }
 
@@ -116,7 +119,19 @@ final class SightEdges {
             watchIs(y, NONE, 0);
             y.forget();
             watchIs(y, 0, 4);
+            // Sightings are of steps that the six are not counted from.
+            RoundCoracles z = sees("turns 1;goes lean*(step=6)" + reaches + "judge 0 0 0;", 0, 3, 3);
+            watchIs(z, 0, 1);
+            watchInFull();
         });
+    }
+
+    /** Of eight the last one alone is somewhere else, and by a lean of 9 alone. */
+    private void watchInFull() {
+        RoundCoracles x = e.by("goes 2*(lean=9);reach 0 0;reach 0 0;reach 0 0;" + "judge 0 9 20;".repeat(7)
+                + "judge 0 0 0;");
+        watchIs(x, 7, 2);
+        leansAre(x, 72, 0, 1);
     }
 
     private void watchIs(RoundCoracles x, int who, int many) {
@@ -242,6 +257,15 @@ final class SightEdges {
             e.asks(x, "a spin of 0", () -> x.years(seed(6, 2, 3, 0, 8, 0), 1, 2), 0);
             e.asks(x, "of the last reach", () -> x.years(seed(6, 2, 3, 2, 8, 7), 1, 2), 1);
             e.asks(x, "it stays so", () -> x.years(seed(6, 2, 3, 0, 8, 7, 6, 3), 2, 2), 14);
+            for (int spin = 0; spin < 8; spin++) {
+                int drawn = spin;
+                e.asks(x, "two draws behind 2", () -> x.years(seed(6, 2, 3, 0, 8, drawn, 6, 0, 2, 0), 2, 2),
+                        drawn + 2);
+                e.asks(x, "one draw behind 0", () -> x.years(seed(6, 0, 2, 0, 6, 2, 3, 1, 8, drawn), 2, 2),
+                        2 + drawn);
+                e.asks(x, "two draws behind 1", () -> x.years(seed(6, 1, 2, 0, 4, 3, 6, 2, 3, 0, 8, drawn), 2, 2),
+                        1 + drawn);
+            }
             for (int nothing = 3; nothing <= 5; nothing++) {
                 int kind = nothing;
                 e.asks(x, "nothing", () -> x.years(seed(6, kind), 1, 2), 1);

@@ -229,6 +229,8 @@ final class StepEdges {
             e.due("42", x.count(9), 40);
             for (int i = 39; i >= 0; i--) {
                 e.due("undo", x.undo(), i);
+                e.due("faces", x.judge(0, 1), (i + 2) % 8);
+                e.due("the step", x.count(3), 0);
             }
             e.due("the first two stay", x.judge(0, 1), 2);
             e.due("none is left", x.undo(), NONE);
@@ -307,7 +309,25 @@ final class StepEdges {
                 e.due("undo", x.undo(), i);
                 e.same("undo", Edges.shot(x), shots[i]);
             }
+            undoneInFull();
         });
+    }
+
+    /** With as many reaches and judges as can be, of which the last ones are changed. */
+    private void undoneInFull() {
+        RoundCoracles x = e.by("sides 8;turns lean;goes 1;" + "reach 3 7;".repeat(9)
+                + "judge 7 9 0;".repeat(8), 5);
+        String before = Edges.shot(x).replace("9:1", "9:2");
+        x.dredge(8, 3, 7);
+        x.dredge(8, 0, 0);
+        x.paddle(7, 1);
+        x.call(7);
+        x.carry(7, 8);
+        x.steps(20);
+        for (int i = 0; i < 5; i++) {
+            x.undo();
+        }
+        e.same("undo in full", Edges.shot(x), before);
     }
 
     private void status() {
@@ -362,7 +382,52 @@ final class StepEdges {
             e.due("ashore", x.judge(0, 0), NONE);
             e.due("restore", x.restore(), true);
             e.same("restore again", Edges.shot(x), kept);
+            x.forget();
+            x.see(1, 3, 1);
+            e.due("restore", x.restore(), true);
+            e.due("its own sighting", x.leans(2), 1);
+            keptActs();
+            keptSightings();
         });
+    }
+
+    /** The acts of an image are as many as can be, and stay though others come in their place. */
+    private void keptActs() {
+        RoundCoracles x = e.by("sides 8;reach 0 0;judge 0 0 0;");
+        for (int i = 1; i <= 45; i++) {
+            x.paddle(0, i % 8);
+        }
+        x.image();
+        for (int i = 1; i <= 15; i++) {
+            x.dredge(0, 0, i % 8);
+        }
+        for (int again = 0; again < 2; again++) {
+            e.due("restore", x.restore(), true);
+            for (int i = 39; i >= 0; i--) {
+                e.due("undo", x.undo(), i);
+                e.due("faces", x.judge(0, 1), (i + 5) % 8);
+                e.due("spin", x.reach(0, 1), 0);
+            }
+            e.due("none is left", x.undo(), NONE);
+            for (int i = 1; i <= 30; i++) {
+                x.dredge(0, 0, i % 8);
+            }
+        }
+    }
+
+    /** By each of its three parts a sighting of the image is another one than those in its place. */
+    private void keptSightings() {
+        int[][] others = {{1, 1, 1}, {0, 2, 1}, {0, 1, 2}};
+        for (int[] other : others) {
+            RoundCoracles x = e.by("goes 0;turns 1;reach 0 0;judge 0 0 0;judge 3 0 0;");
+            x.see(0, 1, 1);
+            x.image();
+            x.forget();
+            x.see(other[0], other[1], other[2]);
+            e.due("not so", x.leans(2), 0);
+            x.restore();
+            e.due("so", x.leans(2), 1);
+        }
     }
 
     private void count() {

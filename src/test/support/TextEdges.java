@@ -79,6 +79,8 @@ final class TextEdges {
             e.due("to the last byte", x.reach(0, 1), 5);
             e.faulty(row + "reach 2 5?", 1, 699);
             e.faulty(row + " reach 2 5", 1, 700);
+            e.faulty(row + "turns lean", 1, 700);
+            e.faulty(row + "     turns", 1, 700);
             e.good("turns " + "1+".repeat(346) + "1;");
             e.good("goes " + "1 or ".repeat(138) + "1   ;");
         });
@@ -94,6 +96,11 @@ final class TextEdges {
             e.faulty("turns Lean;", 1, 6);
             e.faulty("turns lean`;", 1, 10);
             e.faulty("turns lean{;", 1, 10);
+            e.faulty("turns a;", 3, 6);
+            e.faulty("turns z;", 3, 6);
+            e.faulty("turns leanz;", 3, 6);
+            e.faulty("turns 1 zor 1;", 1, 8);
+            likeWords();
         });
         e.edge("NUMBERS (1 to 4 digits),", () -> {
             e.due("4 digits", e.by("sides 0003;").count(0), 3);
@@ -113,6 +120,32 @@ final class TextEdges {
             e.faulty("si des 3;", 1, 0);
             e.faulty("turns 1 2;", 1, 8);
         });
+    }
+
+    /** A word with one letter changed is another word, which stands nowhere. */
+    private void likeWords() {
+        for (String word : new String[] {"sides", "reach", "judge", "bigot", "turns", "goes"}) {
+            for (int i = 0; i < word.length(); i++) {
+                e.faulty(changed(word, i) + " 1 1 1;", 1, 0);
+            }
+        }
+        for (String word : new String[] {"lean", "seen", "faces", "here", "step", "spin", "not"}) {
+            for (int i = 0; i < word.length(); i++) {
+                e.faulty("turns " + changed(word, i) + ";", 3, 6);
+            }
+        }
+        for (String word : new String[] {"or", "and"}) {
+            for (int i = 0; i < word.length(); i++) {
+                e.faulty("goes 1 " + changed(word, i) + " 1;", 1, 7);
+            }
+        }
+        for (int i = 0; i < 4; i++) {
+            e.faulty("goes " + changed("flow", i) + ";", 3, 5);
+        }
+    }
+
+    private static String changed(String word, int at) {
+        return word.substring(0, at) + 'x' + word.substring(at + 1);
     }
 
     private void eachByteBehindALine() {
@@ -507,6 +540,17 @@ final class TextEdges {
             e.due("no rule of goes", x.then(0, 2, 0), 0);
             e.due("no bytes", x.gorge(0), 0);
             e.due("no reaches", x.count(1), 0);
+            anewAgain(x);
+            // The text ends within a word, a number, a row of blanks of the tape.
+            Edges.feed(x, "turns leanlean;");
+            e.due("a word is cut", x.gorge(10), 1);
+            e.due("its end", x.fault(), 10);
+            Edges.feed(x, "reach 1 123456;");
+            e.due("a number is cut", x.gorge(9), 1);
+            e.due("its end", x.fault(), 9);
+            Edges.feed(x, "reach 1 1 ;");
+            e.due("blanks are cut", x.gorge(10), 1);
+            e.due("their end", x.fault(), 10);
             Edges.feed(x, "reach 1 1;");
             e.due("no bytes of some", x.gorge(0), 0);
             e.due("no reaches", x.count(1), 0);
@@ -562,6 +606,29 @@ final class TextEdges {
             e.due("20 of 20", x.gorge(20), 0);
             e.due("sides", x.count(0), 3);
         });
+    }
+
+    /** Nothing is left of the texts ahead, read well or not. */
+    private void anewAgain(RoundCoracles x) {
+        String full = "sides 8;turns 1+1;goes 1+1+1;" + "reach 3 7;".repeat(9) + "bigot 7 9 0;".repeat(8);
+        for (String end : new String[] {"", "?"}) {
+            for (int again = 0; again < 3; again++) {
+                e.due("a full text", Edges.tell(x, full + end), end.length());
+                e.due("a small one", Edges.tell(x, "judge 3 0 0;reach 0 1;"), 0);
+                e.due("sides", x.count(0), 4);
+                e.due("reaches", x.count(1), 1);
+                e.due("judges", x.count(2), 1);
+                e.due("no bigot, no turns, no goes", x.turned(0, 60), 4);
+                e.due("no goes", x.when(0, 1), 4);
+                e.due("the other rule", Edges.tell(x, "goes 2;reach 0 3;reach 0 3;judge 0 0 0;"), 0);
+                e.due("no turns", x.turned(0, 1), 3);
+                e.due("goes", x.then(0, 1, 0), Edges.LANDED);
+                e.due("a full text", Edges.tell(x, full + end), end.length());
+                e.due("nothing", Edges.tell(x, ""), 0);
+                e.due("four sides", x.count(0), 4);
+                e.due("no judges", x.count(2), 0);
+            }
+        }
     }
 
     private void fault() {
