@@ -229,7 +229,7 @@ public final class RoundCoracles {
     public int when(int judge, int what) throws NoSuchElementException {
         needJudge(judge);
         needWhat(what, 1);
-        tryFor(0);
+        tryFromNow();
         return what == 0 ? stepsTillFair(judge) : stepsTillLanded(judge);
     }
 
@@ -272,7 +272,7 @@ public final class RoundCoracles {
         if (judge == other) {
             return NONE;
         }
-        tryFor(0);
+        tryFromNow();
         for (int t = 0; t <= HORIZON; t++) {
             if (trial.where[judge] >= 0 && trial.where[judge] == trial.where[other]) {
                 return t;
@@ -284,7 +284,7 @@ public final class RoundCoracles {
 
     public int first() {
         int before = book.waters.landedOnes(told);
-        tryFor(0);
+        tryFromNow();
         for (int t = 1; t <= HORIZON; t++) {
             trial.pass(told, false);
             int landed = trial.landedOnes(told) & ~before;
@@ -297,7 +297,7 @@ public final class RoundCoracles {
 
     public int last(int judge) throws NoSuchElementException {
         needJudge(judge);
-        tryFor(0);
+        tryFromNow();
         int last = NONE;
         for (int t = 1; t <= HORIZON; t++) {
             int before = trial.seen[judge];
@@ -315,7 +315,7 @@ public final class RoundCoracles {
         needJudge(judge);
         needWhat(what, 1);
         needSteps(steps, 1, HORIZON);
-        tryFor(0);
+        tryFromNow();
         int many = 0;
         for (int t = 1; t <= steps; t++) {
             trial.pass(told, false);
@@ -335,7 +335,7 @@ public final class RoundCoracles {
 
     public int stay(int judge) throws NoSuchElementException {
         needJudge(judge);
-        tryFor(0);
+        tryFromNow();
         int longest = 0;
         int row = 0;
         int place = NONE;
@@ -356,7 +356,7 @@ public final class RoundCoracles {
         int best = NONE;
         int soonest = NONE;
         for (int side = 0; side < told.sides; side++) {
-            tryFor(0);
+            tryFromNow();
             trial.faces[judge] = side;
             int whole = stepsTillFair(judge);
             if (isSooner(whole, soonest)) {
@@ -379,7 +379,7 @@ public final class RoundCoracles {
         int best = 0;
         int most = NONE;
         for (int spin = 0; spin <= MOST_SPIN; spin++) {
-            tryFor(0);
+            tryFromNow();
             trial.spin[reach] = spin;
             goOnTrying(steps);
             int fair = Integer.bitCount(trial.fairOnes(told));
@@ -393,12 +393,12 @@ public final class RoundCoracles {
 
     public int toCall(int judge) throws NoSuchElementException {
         needJudge(judge);
-        tryFor(0);
+        tryFromNow();
         int soonest = stepsTillFair(judge);
         int best = NONE;
         for (int called = 0; called < told.judges; called++) {
             if (book.waters.where[called] >= 0) {
-                tryFor(0);
+                tryFromNow();
                 trial.goOn(told, called, 1);
                 int whole = stepsTillFair(judge);
                 if (isSooner(whole, soonest)) {
@@ -459,7 +459,7 @@ public final class RoundCoracles {
         needJudge(judge);
         needJudge(other);
         needSteps(steps, 1, HORIZON);
-        tryFor(0);
+        tryFromNow();
         int many = 0;
         for (int t = 1; t <= steps; t++) {
             trial.pass(told, false);
@@ -484,7 +484,7 @@ public final class RoundCoracles {
     public int leans(int what) throws NoSuchElementException {
         needWhat(what, 2);
         if (what == 2) {
-            tryFor(0);
+            tryFromNow();
             return sightingsHold() ? 1 : 0;
         }
         int many = 0;
@@ -506,7 +506,7 @@ public final class RoundCoracles {
     private boolean tryGuess(int guess) {
         int judge = guess / 10;
         int lean = guess % 10;
-        tryFor(0);
+        tryFromNow();
         trial.lean[judge] = lean;
         return told.lean[judge] != lean;
     }
@@ -569,7 +569,7 @@ public final class RoundCoracles {
         }
         int fair = 0;
         for (int flooded = 0; flooded < 1 << steps; flooded++) {
-            tryFor(0);
+            tryFromNow();
             int weight = 1;
             for (int t = 0; t < steps; t++) {
                 boolean flood = (flooded >> t & 1) == 1;
@@ -616,7 +616,7 @@ public final class RoundCoracles {
     }
 
     private void play(int judge, int other, int couple) {
-        tryFor(0);
+        tryFromNow();
         if ((couple & 2) != 0) {
             trial.turnBy(told, judge, 1);
         }
@@ -639,7 +639,7 @@ public final class RoundCoracles {
             throws NoSuchElementException, IllegalArgumentException {
         needWhat(what, 2);
         needSteps(n, 0, HORIZON);
-        tryFor(0);
+        tryFromNow();
         int chance = seed;
         for (int t = 0; t < n; t++) {
             chance = befall(chance);
@@ -702,9 +702,13 @@ public final class RoundCoracles {
         return true;
     }
 
+    private void tryFromNow() {
+        trial.copyFrom(book.waters);
+    }
+
     /** The trial is as it would be behind so many steps from now on. */
     private void tryFor(int steps) {
-        trial.copyFrom(book.waters);
+        tryFromNow();
         goOnTrying(steps);
     }
 
@@ -880,7 +884,7 @@ public final class RoundCoracles {
         private void takeDigits() {
             digits = 0;
             value = 0;
-            while (end < length && isDigit(text[end])) {
+            while (end < length && text[end] >= '0' && text[end] <= '9') {
                 digits++;
                 if (digits <= MOST_DIGITS) {
                     value = value * 10 + text[end] - '0';
